@@ -272,7 +272,7 @@ public final class MarkToBoard {
         if (who < 0) {
             return false;
         }
-        mind.record(who, b);
+        mind.record(who, b, 0);
         return true;
     }
 
@@ -430,8 +430,9 @@ public final class MarkToBoard {
         for (int look = 0; look <= MOST_LOOK; look++) {
             spare.look = look;
             spreadAt(spare, place);
-            if (chances.meanWays() > most) {
-                most = chances.meanWays();
+            long mean = chances.meanWays();
+            if (mean > most) {
+                most = mean;
                 best = look;
             }
         }
@@ -479,7 +480,7 @@ public final class MarkToBoard {
 
     public int jump(int jumper, int b) {
         int no = first(nobody(jumper), first(notInTurn(jumper), outside(b, 0, MOST_OFF)));
-        return no != 0 ? refuse(no) : now.record(jumper, b);
+        return no != 0 ? refuse(no) : now.record(jumper, b, 0);
     }
 
     public int none(int jumper, int what) {
@@ -487,7 +488,7 @@ public final class MarkToBoard {
         if (no != 0) {
             return refuse(no);
         }
-        now.record(jumper, what == 0 ? FOUL : PASSED);
+        now.record(jumper, what == 0 ? FOUL : PASSED, 0);
         return now.triesOf(jumper);
     }
 
@@ -632,8 +633,9 @@ public final class MarkToBoard {
         for (int i = 0; i < rowCount; i++) {
             int wind = row[i] - MOST_WIND;
             chances.spread(one, now.strides, wind, one.mark - one.path(now.strides, wind), 0);
-            if (chances.meanWays() > most) {
-                most = chances.meanWays();
+            long mean = chances.meanWays();
+            if (mean > most) {
+                most = mean;
                 best = i;
             }
         }
@@ -729,7 +731,7 @@ public final class MarkToBoard {
 
     private int runByDraws(int who) {
         Jumper one = mind.at(who);
-        int left = placeOf(who);
+        int left = one.mark - one.path(mind.strides, mind.wind);
         int loss = 0;
         for (int k = 0; k < mind.strides; k++) {
             if (mind.strides - k == one.look) {
@@ -740,7 +742,7 @@ public final class MarkToBoard {
             int draw = drawBelow(4);
             left -= draw == 0 ? one.slip : draw == 3 ? -one.slip : 0;
         }
-        return left < 0 ? mind.record(who, FOUL) : mind.recordRun(who, left, loss);
+        return mind.record(who, left < 0 ? FOUL : left, loss);
     }
 
     private int drawBelow(int n) {
@@ -760,7 +762,7 @@ public final class MarkToBoard {
     }
 
     private void fillParts(int[] parts, int jumper, int place) {
-        spreadAt(now.at(jumper), place);
+        chances.spread(now.at(jumper), now.strides, now.wind, place, 0);
         for (int v = 0; v < parts.length && v <= MOST_LENGTH; v++) {
             parts[v] = chances.share(chances.byLength[v]);
         }
@@ -838,15 +840,18 @@ public final class MarkToBoard {
         int best = NONE;
         for (int what = 0; what < 5; what++) {
             spare.copyFrom(now.at(jumper));
-            if (practised(what)) {
-                spreadAt(spare, place);
-                if (chances.meanWays() > most) {
-                    most = chances.meanWays();
-                    best = what;
-                }
+            long mean = practised(what) ? meanAt(place) : -1;
+            if (mean > most) {
+                most = mean;
+                best = what;
             }
         }
         return best;
+    }
+
+    private long meanAt(int place) {
+        chances.spread(spare, now.strides, now.wind, place, 0);
+        return chances.meanWays();
     }
 
     private boolean practised(int what) {
@@ -1044,7 +1049,8 @@ public final class MarkToBoard {
         }
 
         int lengthOf(Jumper one, int b, int l, int wind) {
-            return Math.max(0, 4 * one.pace + 2 * wind + one.figure - b - 2 * l);
+            int length = 4 * one.pace + 2 * wind + one.figure - b - 2 * l;
+            return length < 0 ? 0 : length;
         }
     }
 
@@ -1054,7 +1060,8 @@ public final class MarkToBoard {
         }
 
         int lengthOf(Jumper one, int b, int l, int wind) {
-            return Math.max(0, super.lengthOf(one, b, l, wind) - 3);
+            int length = super.lengthOf(one, b, l, wind) - 3;
+            return length < 0 ? 0 : length;
         }
     }
 
@@ -1084,7 +1091,8 @@ public final class MarkToBoard {
         }
 
         int lengthOf(Jumper one, int b, int l, int wind) {
-            return Math.max(0, super.lengthOf(one, b, l, wind) + wind);
+            int length = super.lengthOf(one, b, l, wind) + wind;
+            return length < 0 ? 0 : length;
         }
     }
 
@@ -1174,8 +1182,8 @@ public final class MarkToBoard {
         final int[] off = new int[MOST_TRIES];
         // A LENGTH, FOUL or PASSED.
         final int[] result = new int[MOST_TRIES];
-        // WIND may change behind a try; WITHOUT FOULS asks by the WIND it was made in.
-        final int[] windThen = new int[MOST_TRIES];
+        // WIND may change behind a try: what WITHOUT FOULS asks is kept from the WIND it was made in.
+        final int[] clean = new int[MOST_TRIES];
 
         Meet(Kind plain) {
             for (int i = 0; i < JUMPERS; i++) {
@@ -1195,7 +1203,7 @@ public final class MarkToBoard {
             System.arraycopy(other.who, 0, who, 0, MOST_TRIES);
             System.arraycopy(other.off, 0, off, 0, MOST_TRIES);
             System.arraycopy(other.result, 0, result, 0, MOST_TRIES);
-            System.arraycopy(other.windThen, 0, windThen, 0, MOST_TRIES);
+            System.arraycopy(other.clean, 0, clean, 0, MOST_TRIES);
         }
 
         Jumper at(int jumper) {
@@ -1203,7 +1211,7 @@ public final class MarkToBoard {
         }
 
         int finalists() {
-            return Math.min(goOn, size);
+            return goOn < size ? goOn : size;
         }
 
         int round() {
@@ -1227,35 +1235,24 @@ public final class MarkToBoard {
         }
 
         // b below 0 is FOUL or PASSED.
-        int record(int jumper, int b) {
-            if (b >= 0) {
-                return recordRun(jumper, b, 0);
-            }
-            return put(jumper, 0, b);
-        }
-
-        int recordRun(int jumper, int b, int loss) {
+        int record(int jumper, int b, int loss) {
             Jumper one = at(jumper);
-            return put(jumper, b, one.way.lengthOf(one, b, loss, wind));
-        }
-
-        private int put(int jumper, int b, int told) {
+            int told = b < 0 ? b : one.way.lengthOf(one, b, loss, wind);
             if (tries < MOST_TRIES) {
                 who[tries] = jumper;
                 off[tries] = b;
                 result[tries] = told;
-                windThen[tries] = wind;
+                clean[tries] = one.way.lengthOf(one, 0, 0, wind);
                 tries++;
             }
             return told;
         }
 
         int lengthBy(int law, int t) {
-            if (result[t] >= 0) {
-                return law == 1 ? result[t] + off[t] : result[t];
+            if (result[t] < 0) {
+                return law == 2 && result[t] == FOUL ? clean[t] : 0;
             }
-            Jumper one = at(who[t]);
-            return law == 2 && result[t] == FOUL ? one.way.lengthOf(one, 0, 0, windThen[t]) : 0;
+            return law == 1 ? result[t] + off[t] : result[t];
         }
 
         void rank(Ranking ranking, int law, int triesAsked) {
@@ -1333,8 +1330,11 @@ public final class MarkToBoard {
 
         // How many stand ahead of one, had it one more try of this LENGTH.
         int ahead(int jumper, int length) {
-            int own = Math.max(longest(jumper), length);
-            int ownSecond = Math.max(secondLongest(jumper), Math.min(longest(jumper), length));
+            if (jumper < 0 || jumper >= size) {
+                return size;
+            }
+            int own = Math.max(longest[jumper], length);
+            int ownSecond = Math.max(second[jumper], Math.min(longest[jumper], length));
             int count = 0;
             for (int i = 0; i < size; i++) {
                 boolean first = longest[i] != own ? longest[i] > own

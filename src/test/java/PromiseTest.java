@@ -157,11 +157,8 @@ public final class PromiseTest {
             due("letters", x.count(7), 0);
             for (int r = 11; r <= 16; r++) due("count " + r, x.count(r), 0);
         }
-        StringBuilder full = new StringBuilder();
-        for (int i = 0; i < 31; i++) full.append("w+").append(i % 10).append(i == 30 ? "" : ";");
-        MarkToBoard x = new MarkToBoard();
-        due("93 and three letters", tell(x, full.substring(0, 93) + "w-1"), -1000 - 93 - (full.charAt(92) == ';' ? 3 : 0));
-        due("95 and the 96th lacking", tell(new MarkToBoard(), "f;".repeat(47) + "w+"), -1096);
+        due("a second w", tell(new MarkToBoard(), "w+1;".repeat(23) + "ww-1"), -1093);
+        due("96 letters, more lacking", tell(new MarkToBoard(), "f;".repeat(47) + "w+"), -1096);
     }
 
     private static void faultsOfStatements() {
