@@ -651,13 +651,13 @@ public final class MarkToBoard {
         int open = now.size - from;
         for (int i = from; i < now.size; i++) {
             spreadNow(i, 0);
-            means[i] = (int) (chances.meanWays() >> 2 * now.strides);
+            means[i] = (int) (chances.meanWays() >> (2 * now.strides));
         }
         int hits = 0;
         for (int bits = 0; bits < 1 << open; bits++) {
             now.rank(ranking, 0, now.tries);
             for (int i = from; i < now.size; i++) {
-                ranking.add(i, (bits >> i - from & 1) != 0 ? means[i] : 0);
+                ranking.add(i, ((bits >> (i - from)) & 1) != 0 ? means[i] : 0);
             }
             hits += ranking.ahead(jumper, 0) < now.finalists() ? 1 : 0;
         }
@@ -887,7 +887,7 @@ public final class MarkToBoard {
         for (int strides = FEWEST_STRIDES; strides <= MOST_STRIDES; strides++) {
             chances.spread(one, strides, now.wind, one.way.aimOf(one), 0);
             // All means over one line, so that different numbers of STRIDES compare.
-            long mean = chances.meanWays() << 2 * (MOST_STRIDES - strides);
+            long mean = chances.meanWays() << (2 * (MOST_STRIDES - strides));
             if (mean > most) {
                 most = mean;
                 best = strides;
@@ -1384,7 +1384,7 @@ public final class MarkToBoard {
             if (early < 0 || strides > MOST_STRIDES || one.look < 0 || one.look > MOST_LOOK) {
                 return;
             }
-            all = 1L << 2 * strides;
+            all = 1L << (2 * strides);
             int aim = one.way.aimOf(one);
             for (int s = -early; s <= early; s++) {
                 int behind = place - one.slip * s;

@@ -65,6 +65,7 @@ public final class SideBySideTest {
 
     private int odd(int least, int most) {
         int r = below(20);
+        if (below(200) == 0) return r < 10 ? Integer.MIN_VALUE : Integer.MAX_VALUE;
         return r == 0 ? least - 1 : r == 1 ? most + 1 : r == 2 ? least : r == 3 ? most : least + below(most - least + 1);
     }
 
