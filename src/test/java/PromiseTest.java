@@ -1,14 +1,5 @@
 /** Each promise by numbers that were reckoned by hand from the document. */
-public final class PromiseTest {
-    private static int wrong = 0;
-    private static int promise = 0;
-
-    /** FIGURE 5, STRIDE 50, SLIP 1, PACE 50: takes off 3 behind as a rule; LENGTH 205 less b. */
-    private static final String ONE = "n04;j0550015000203;";
-    /** No slips; b 0, 5, 1 as a rule; LENGTHS with b 0: 200, 200, 163. */
-    private static final String THREE = "n04;j0050005000200;j1350005000205;j2050004000203;";
-    private static final long BIG = 4000000000000000000L;
-
+public final class PromiseTest extends Checks {
     public static void main(String[] args) {
         anew();
         letters();
@@ -55,50 +46,11 @@ public final class PromiseTest {
         mayStills();
         images();
         counts();
-        System.out.println(wrong == 0 ? "all promises kept" : wrong + " answers are not as due");
-        if (wrong != 0) System.exit(1);
-    }
-
-    private static void due(String call, long got, long want) {
-        if (got != want) {
-            wrong++;
-            System.out.println("promise " + promise + ": " + call + " answered " + got + ", due is " + want);
-        }
-    }
-
-    private static int tell(MarkToBoard x, String text) {
-        for (int i = 0; i < text.length(); i++) x.feed(text.charAt(i));
-        return x.ground();
-    }
-
-    private static MarkToBoard with(String text) {
-        MarkToBoard x = new MarkToBoard();
-        int told = tell(x, text);
-        if (told < 1) due("ground of " + text, told, 1);
-        return x;
-    }
-
-    /** Who is in turn tries; -9 a FOUL, -8 PASSED. */
-    private static void tries(MarkToBoard x, int... told) {
-        for (int b : told) {
-            int who = x.turn();
-            int answer = b >= 0 ? x.jump(who, b) : x.none(who, b == -9 ? 0 : 1);
-            if (answer < 0) due("a try " + b, answer, 0);
-        }
-    }
-
-    private static void row(MarkToBoard x, int... numbers) {
-        x.clear();
-        for (int v : numbers) x.row(v);
-    }
-
-    private static void part(String call, long above, long below, long wantAbove, long wantBelow) {
-        due(call + " above", above, wantAbove);
-        due(call + " below", below, wantBelow);
+        end();
     }
 
     private static void anew() {
-        promise = 1;
+        promise(1);
         MarkToBoard x = new MarkToBoard();
         int[] counts = {0, 6, 0, 10, 2, 0, 0, 0, 0, -9, -9, 0, 0, 0, 0, 0, 0, -9};
         for (int w = 0; w < counts.length; w++) due("count " + w, x.count(w), counts[w]);
@@ -108,7 +60,7 @@ public final class PromiseTest {
     }
 
     private static void letters() {
-        promise = 2;
+        promise(2);
         MarkToBoard x = new MarkToBoard();
         due("feed", x.feed('n'), 1);
         due("feed 0", x.feed(0), 2);
@@ -124,7 +76,7 @@ public final class PromiseTest {
     }
 
     private static void grounds() {
-        promise = 3;
+        promise(3);
         MarkToBoard x = new MarkToBoard();
         due("ground", tell(x, "n07;w-3;g4;j5962369840123;j0040002000000;"), 5);
         due("letters", x.count(7), 0);
@@ -146,7 +98,7 @@ public final class PromiseTest {
     }
 
     private static void faultsOfSigns() {
-        promise = 3;
+        promise(3);
         String[] texts = {"", "x", "n", "n1", "n1x;", "n10", "n101;", "w", "w5;", "w+", "w+;", "w+12;", "g;", "g2", "g2;;",
             "f", "f;x", "ff;", "p1;", "t5;", "t05", "g9;x", "j0", "j055001500020;", "j05500150002031;", "f;N10;", "w*3;",
             "j05500150/0203;", "j05500150:0203;"};
@@ -162,7 +114,7 @@ public final class PromiseTest {
     }
 
     private static void faultsOfStatements() {
-        promise = 3;
+        promise(3);
         String[] texts = {"n03;", "n21;", "g0;", "g5;", "w-9;n30;", "j6550015000203;", "j0539015000203;", "j0550075000203;",
             "j0550011900203;", "j0550015050203;", "j0550015002401;", "t05;", "f;", "p;", "g1;" + ONE + "t00;n10;",
             ONE + "f;g1;", ONE + "p;j0550015000203;", ONE + "t99;w-1;w+1;f;p;t01;t02;t03;f;", "g9;n99;"};
@@ -187,7 +139,7 @@ public final class PromiseTest {
     }
 
     private static void jumpers() {
-        promise = 4;
+        promise(4);
         int[] aims = {0, 7, 1, 3, 1, 4};
         for (int kind = 0; kind < 6; kind++) {
             MarkToBoard x = with("j" + kind + "541723332012;");
@@ -210,7 +162,7 @@ public final class PromiseTest {
     }
 
     private static void marksAndLooks() {
-        promise = 5;
+        promise(5);
         MarkToBoard x = with(ONE);
         due("mark", x.mark(0, 0), 203);
         due("place", x.place(0), -200);
@@ -219,7 +171,7 @@ public final class PromiseTest {
         due("-4", x.mark(0, -1), -4);
         due("-1", x.mark(1, -1), -1);
         due("mark", x.mark(0, 5), 2400);
-        promise = 6;
+        promise(6);
         due("look", x.look(0, 4), 0);
         due("look", x.look(0, 0), 4);
         due("-6", x.look(0, 5), -6);
@@ -229,7 +181,7 @@ public final class PromiseTest {
     }
 
     private static void sets() {
-        promise = 7;
+        promise(7);
         MarkToBoard x = new MarkToBoard();
         due("set 0", x.set(0, 20), 10);
         due("set 0", x.set(0, 4), 20);
@@ -253,7 +205,7 @@ public final class PromiseTest {
     }
 
     private static void winds() {
-        promise = 8;
+        promise(8);
         MarkToBoard x = with(ONE);
         due("wind", x.wind(-9), 0);
         due("wind", x.wind(9), -9);
@@ -266,7 +218,7 @@ public final class PromiseTest {
     }
 
     private static void strides() {
-        promise = 9;
+        promise(9);
         int[][] want = {{50, 50, 50, 51, 52}, {50, 50, 50, 51, 52}, {50, 51, 50, 52, 53}, {50, 50, 50, 51, 52},
             {50, 51, 49, 51, 49}, {50, 50, 51, 52, 56}};
         int[] ks = {0, 1, 2, 3, 9};
@@ -282,7 +234,7 @@ public final class PromiseTest {
     }
 
     private static void places() {
-        promise = 10;
+        promise(10);
         int[] paths = {201, 201, 203, 201, 201, 203};
         for (int kind = 0; kind < 6; kind++) {
             MarkToBoard x = with("n04;w-5;j" + kind + "550712000300;");
@@ -297,7 +249,7 @@ public final class PromiseTest {
     }
 
     private static void lengths() {
-        promise = 11;
+        promise(11);
         int[] some = {55, 52, 58, 52, 53, 53};
         int[] none = {0, 0, 3, 0, 0, 1};
         for (int kind = 0; kind < 6; kind++) {
@@ -315,7 +267,7 @@ public final class PromiseTest {
     }
 
     private static void offs() {
-        promise = 12;
+        promise(12);
         MarkToBoard x = with(ONE);
         part("off 3", x.off(0, 3, 0), x.off(0, 3, 1), 35, 128);
         part("off -1", x.off(0, -1, 0), x.off(0, -1, 1), 1, 256);
@@ -337,7 +289,7 @@ public final class PromiseTest {
     }
 
     private static void means() {
-        promise = 13;
+        promise(13);
         MarkToBoard x = with(ONE);
         part("FOULS", x.mean(0, 0, 0), x.mean(0, 0, 1), 1, 256);
         part("MEAN", x.mean(0, 1, 0), x.mean(0, 1, 1), 25753, 128);
@@ -359,7 +311,7 @@ public final class PromiseTest {
     }
 
     private static void pasts() {
-        promise = 14;
+        promise(14);
         MarkToBoard x = with(ONE);
         part("past 202", x.past(0, 202, 0), x.past(0, 202, 1), 23, 64);
         part("past 204", x.past(0, 204, 0), x.past(0, 204, 1), 1, 32);
@@ -373,7 +325,7 @@ public final class PromiseTest {
     }
 
     private static void bestLooks() {
-        promise = 15;
+        promise(15);
         MarkToBoard x = with(ONE);
         due("bestLook", x.bestLook(0), 1);
         due("LOOK stays", x.jumper(0, 6), 0);
@@ -383,7 +335,7 @@ public final class PromiseTest {
     }
 
     private static void bestMarks() {
-        promise = 16;
+        promise(16);
         MarkToBoard x = with(ONE);
         due("for MEAN", x.bestMark(0, -1), 203);
         due("for PAST 202", x.bestMark(0, 202), 201);
@@ -406,7 +358,7 @@ public final class PromiseTest {
     }
 
     private static void backs() {
-        promise = 17;
+        promise(17);
         MarkToBoard x = with(ONE);
         due("back 9", x.back(0, 9), 3);
         due("back -9", x.back(0, -9), -3);
@@ -420,7 +372,7 @@ public final class PromiseTest {
     }
 
     private static void turns() {
-        promise = 18;
+        promise(18);
         MarkToBoard x = with(THREE);
         int[] order = {0, 1, 2, 0, 1, 2, 0, 1, 2};
         int[] told = {10, 20, 0, -9, -8, 3, 9, 5, 5};
@@ -447,7 +399,7 @@ public final class PromiseTest {
     }
 
     private static void jumps() {
-        promise = 19;
+        promise(19);
         MarkToBoard x = with(THREE);
         due("jump", x.jump(0, 300), 0);
         due("jump", x.jump(1, 0), 200);
@@ -463,7 +415,7 @@ public final class PromiseTest {
     }
 
     private static void nones() {
-        promise = 20;
+        promise(20);
         MarkToBoard x = with(THREE);
         due("FOUL", x.none(0, 0), 1);
         due("out of turn", x.none(0, 0), -3);
@@ -479,7 +431,7 @@ public final class PromiseTest {
     }
 
     private static void undos() {
-        promise = 21;
+        promise(21);
         MarkToBoard x = with(THREE);
         due("-3", x.undo(), -3);
         tries(x, 0, -9);
@@ -493,7 +445,7 @@ public final class PromiseTest {
     }
 
     private static void trieds() {
-        promise = 22;
+        promise(22);
         MarkToBoard x = with(THREE);
         tries(x, 10, -9, -8, 20);
         due("tried", x.tried(0, 0), 190);
@@ -508,7 +460,7 @@ public final class PromiseTest {
     }
 
     private static void needs() {
-        promise = 23;
+        promise(23);
         MarkToBoard x = with(THREE);
         due("none yet", x.needs(0, 0), 0);
         due("a lesser number is ahead", x.needs(2, 0), 1);
@@ -528,7 +480,7 @@ public final class PromiseTest {
     }
 
     private static void ranks() {
-        promise = 24;
+        promise(24);
         due("nobody", new MarkToBoard().ranks(0), 0);
         MarkToBoard x = with(THREE);
         due("none yet", x.ranks(0), 210);
@@ -556,19 +508,19 @@ public final class PromiseTest {
 
     private static void leadsAndGoOn() {
         MarkToBoard x = new MarkToBoard();
-        promise = 25;
+        promise(25);
         due("nobody", x.leads(), -9);
-        promise = 26;
+        promise(26);
         due("nobody", x.goOn(), 0);
         x = with(THREE);
-        promise = 25;
+        promise(25);
         due("none yet", x.leads(), 0);
-        promise = 26;
+        promise(26);
         due("none yet", x.goOn(), 3);
         tries(x, -9, 40, 0);
-        promise = 25;
+        promise(25);
         due("2 leads", x.leads(), 2);
-        promise = 26;
+        promise(26);
         due("1 and 2", x.goOn(), 6);
         tries(x, -9, 40, 0, -9, 40, 0);
         due("1 and 2", x.goOn(), 6);
@@ -579,7 +531,7 @@ public final class PromiseTest {
     }
 
     private static void aims() {
-        promise = 27;
+        promise(27);
         MarkToBoard x = with(ONE);
         due("b", x.aim(0, 1, 202, 0), 1);
         due("likely", x.aim(0, 1, 202, 1), 7109);
@@ -601,7 +553,7 @@ public final class PromiseTest {
 
     private static void rows() {
         MarkToBoard x = new MarkToBoard();
-        promise = 28;
+        promise(28);
         due("-3", x.tooLong(), -3);
         row(x, 50, 51);
         due("above", x.tooLong(), 1);
@@ -610,7 +562,7 @@ public final class PromiseTest {
         row(x, 60, 40);
         due("neither", x.tooLong(), 0);
         due("it stays", x.count(8), 2);
-        promise = 29;
+        promise(29);
         due("unlike", x.unlike(), 20);
         row(x, 7);
         due("one", x.unlike(), 0);
@@ -619,7 +571,7 @@ public final class PromiseTest {
         due("it stays", x.clear(), 3);
         due("-3", x.unlike(), -3);
         due("count 13", x.count(13), 2);
-        promise = 30;
+        promise(30);
         due("none", x.moved(1), -9);
         row(x, 60);
         due("the first is not moved", x.moved(1), -9);
@@ -636,20 +588,20 @@ public final class PromiseTest {
         due("it stays", x.count(8), 3);
         due("-4", x.moved(0), -4);
         due("-6", x.moved(100), -6);
-        promise = 33;
+        promise(33);
         due("-4", x.row(-1), -4);
         due("-6", x.row(100), -6);
         for (int i = 4; i <= 12; i++) due("row", x.row(i == 4 ? 0 : 99), i);
         due("full", x.row(0), -6);
         due("full, below", x.row(-1), -4);
-        promise = 35;
+        promise(35);
         due("clear", x.clear(), 12);
         due("clear", x.clear(), 0);
         due("row", x.row(5), 1);
     }
 
     private static void gusts() {
-        promise = 31;
+        promise(31);
         MarkToBoard x = with("n04;j0050005000203;");
         due("none", x.gusts(0), -9);
         row(x, 9, 18, 0, 18);
@@ -666,7 +618,7 @@ public final class PromiseTest {
     }
 
     private static void ons() {
-        promise = 32;
+        promise(32);
         MarkToBoard x = with(THREE);
         part("on 0", x.on(0, 0), x.on(0, 1), 7, 8);
         part("on 1", x.on(1, 0), x.on(1, 1), 3, 4);
@@ -697,7 +649,7 @@ public final class PromiseTest {
     }
 
     private static void judges() {
-        promise = 34;
+        promise(34);
         MarkToBoard x = with(THREE);
         due("none", x.judge(), -9);
         row(x, 55, 50);
@@ -723,7 +675,7 @@ public final class PromiseTest {
     }
 
     private static void seeds() {
-        promise = 36;
+        promise(36);
         MarkToBoard x = with(ONE);
         due("first", x.seeds(0, 1, 1, 0), 1);
         due("LENGTHS", x.seeds(0, 1, 1, 1), 1206);
@@ -750,7 +702,7 @@ public final class PromiseTest {
     }
 
     private static void parts() {
-        promise = 37;
+        promise(37);
         MarkToBoard x = with(ONE);
         due("FOULS", x.parts(0, 0), 39);
         due("202", x.parts(0, 202), 2734);
@@ -763,7 +715,7 @@ public final class PromiseTest {
     }
 
     private static void mores() {
-        promise = 38;
+        promise(38);
         MarkToBoard x = with("j0250005000200;" + ONE);
         due("by parts cut", x.more(1, 0), 3592);
         due("the other", x.more(0, 1), 3670);
@@ -777,7 +729,7 @@ public final class PromiseTest {
     }
 
     private static void duels() {
-        promise = 39;
+        promise(39);
         MarkToBoard x = with(ONE + "j0050005000250;");
         due("the pair", x.duel(0, 1, 0), 0);
         due("by it", x.duel(0, 1, 1), 6365);
@@ -800,7 +752,7 @@ public final class PromiseTest {
     }
 
     private static void practices() {
-        promise = 40;
+        promise(40);
         due("PACE", with("n04;j0050005000203;").practice(0), 2);
         due("LOOK, PACE being 99", with("n04;j0050009900203;").practice(0), 3);
         due("SLIP", with("n04;j0050019900200;").practice(0), 0);
@@ -814,7 +766,7 @@ public final class PromiseTest {
     }
 
     private static void bestRuns() {
-        promise = 41;
+        promise(41);
         MarkToBoard x = with("w+3;j3650755140203;n20;");
         due("5", x.bestRun(0), 5);
         due("STRIDES stay", x.count(3), 20);
@@ -823,7 +775,7 @@ public final class PromiseTest {
     }
 
     private static void marksIn() {
-        promise = 42;
+        promise(42);
         MarkToBoard x = with(ONE);
         due("0", x.markIn(0, 0), 200);
         due("9", x.markIn(0, 9), 203);
@@ -836,7 +788,7 @@ public final class PromiseTest {
     }
 
     private static void fouled() {
-        promise = 43;
+        promise(43);
         MarkToBoard x = with(ONE);
         part("none", x.fouled(0, 0), x.fouled(0, 1), 0, 1);
         tries(x, -8);
@@ -850,7 +802,7 @@ public final class PromiseTest {
     }
 
     private static void betters() {
-        promise = 44;
+        promise(44);
         MarkToBoard x = with(ONE);
         due("none", x.better(0), 0);
         tries(x, -9, 10);
@@ -866,7 +818,7 @@ public final class PromiseTest {
     }
 
     private static void halves() {
-        promise = 45;
+        promise(45);
         MarkToBoard x = with(ONE);
         due("none", x.half(0), -9);
         tries(x, -8);
@@ -885,7 +837,7 @@ public final class PromiseTest {
     }
 
     private static void safes() {
-        promise = 46;
+        promise(46);
         MarkToBoard x = with(THREE);
         due("0: as good as one of 200, 163", x.safe(0), 163);
         due("1 past 163", x.safe(1), 163);
@@ -902,7 +854,7 @@ public final class PromiseTest {
     }
 
     private static void mayStills() {
-        promise = 47;
+        promise(47);
         due("nobody", new MarkToBoard().mayStill(), 0);
         MarkToBoard x = with(THREE);
         due("all", x.mayStill(), 7);
@@ -922,12 +874,12 @@ public final class PromiseTest {
     }
 
     private static void images() {
-        promise = 48;
+        promise(48);
         MarkToBoard x = with(THREE);
         x.wind(4);
         tries(x, 3);
         due("image", x.image(), 1);
-        promise = 49;
+        promise(49);
         tries(x, 9, -9);
         x.mark(0, 7);
         x.look(1, 3);
@@ -954,16 +906,16 @@ public final class PromiseTest {
         due("REFUSALS stay", x.count(13), 1);
         due("again", x.restore(), 1);
         due("WIND again", x.wind(0), 4);
-        promise = 48;
+        promise(48);
         x.undo();
         due("another", x.image(), 0);
         due("restore", x.restore(), 0);
-        promise = 49;
+        promise(49);
         due("-3", with(ONE).restore(), -3);
     }
 
     private static void counts() {
-        promise = 50;
+        promise(50);
         MarkToBoard x = with(THREE);
         tries(x, 0, -9, -9, -8);
         x.feed('x');
