@@ -146,16 +146,17 @@ public final class GroundEdgeTest extends Checks {
         due("one more", x.feed('w'), -6);
         due("ground", x.ground(), 24);
         due("the last WIND", x.wind(0), -7);
+        x = new MarkToBoard();
         due("lacking at 96", tell(x, whole + "w+;w"), -1094);
         due("lacking ; at 96", tell(x, "f;" + whole + "w+"), -1096);
         due("95 letters, ; lacking", tell(x, whole + "w+1"), -1095);
         due("the last letter wrong", tell(x, whole + "w+1:"), -1095);
+        x = new MarkToBoard();
         due("the last STATEMENT out of range", tell(x, "g1;".repeat(30) + "g1;g0;"), -2093);
         due("nothing came", x.count(4), 2);
         due("32 STATEMENTS", tell(x, "g1;".repeat(31) + "g3;"), 32);
         due("GO ON", x.count(4), 3);
-        // The shortest STATEMENTS: 15 letters, then 40 of two; only six tries are there.
-        due("48 STATEMENTS, OVER", tell(new MarkToBoard(), "j0550015000203;" + "f;".repeat(40)), -2027);
+        due("40 tries of one JUMPER, OVER", tell(new MarkToBoard(), "j0550015000203;" + "f;".repeat(40)), -2027);
         due("48 STATEMENTS without JUMPERS", tell(new MarkToBoard(), "f;".repeat(48)), -2000);
     }
 
